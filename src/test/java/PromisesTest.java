@@ -108,7 +108,11 @@ public final class PromisesTest {
                 "shelf(2, 2, 0, 0) -> 0", "put(0, 1, 1) -> -1", "get(0, 1) -> 1", "get(0, 1) -> 1",
                 "drop(0, 1) -> 2", "put(0, 1, 1) -> -1", "put(0, 2, 2) -> -1", "get(0, 2) -> 2",
                 "victim(0) -> 1");
-        SCRIPT.run("promise 5: a mark of CLOCK does not outlive its key, the hand stays",
+        SCRIPT.run("promise 5: a mark of CLOCK does not outlive its key",
+                "shelf(3, 2, 0, 0) -> 0", "put(0, 1, 1) -> -1", "put(0, 2, 2) -> -1",
+                "get(0, 1) -> 1", "victim(0) -> 2", "drop(0, 1) -> 2", "put(0, 1, 1) -> -1",
+                "victim(0) -> 1");
+        SCRIPT.run("promise 5: the hand of a CLOCK stays",
                 "shelf(3, 2, 0, 0) -> 0", "put(0, 1, 1) -> -1", "put(0, 2, 2) -> -1",
                 "put(0, 3, 3) -> 1", "told(0, 7) -> 1", "get(0, 2) -> 2", "drop(0, 2) -> 2",
                 "told(0, 7) -> 1", "all(0, 0) -> [3]", "drop(0, 3) -> 2", "put(0, 4, 4) -> -1",
@@ -315,7 +319,8 @@ public final class PromisesTest {
                 "shelf(5, 3, 0, 0) -> 0", "put(0, 1, 1) -> -1", "put(0, 2, 2) -> -1",
                 "put(0, 3, 3) -> -1", "get(0, 1) -> 1", "get(0, 2) -> 2", "all(0, 0) -> [3]",
                 "all(0, 1) -> [1, 2]", "put(0, 4, 4) -> 3", "all(0, 2) -> [3]",
-                "put(0, 3, 3) -> 1", "told(0, 7) -> 1", "all(0, 3) -> [1]", "put(0, 5, 5) -> 2",
+                "put(0, 3, 3) -> 1", "told(0, 7) -> 1", "all(0, 3) -> [1]", "victim(0) -> 2",
+                "all(0, 0) -> [4]", "put(0, 5, 5) -> 2",
                 "put(0, 6, 6) -> 4", "all(0, 0) -> [5, 6]", "all(0, 3) -> [1, 2]",
                 "put(0, 4, 4) -> 3", "told(0, 7) -> 3", "all(0, 2) -> []", "victim(0) -> 4",
                 "put(0, 1, 1) -> 5", "told(0, 7) -> 2", "all(0, 0) -> [6]", "all(0, 1) -> [4, 1]",
@@ -329,6 +334,10 @@ public final class PromisesTest {
                 "put(0, 2, 2) -> 1", "all(0, 3) -> [1]", "get(0, 2) -> 2", "put(0, 3, 3) -> 2",
                 "all(0, 3) -> [2]", "has(0, 1) -> 0", "put(0, 4, 4) -> 3", "has(0, 3) -> 0",
                 "all(0, 2) -> []", "told(0, 6) -> 3");
+        SCRIPT.run("LISTS: ONCE alone is as many as the capacity",
+                "shelf(5, 2, 0, 0) -> 0", "put(0, 1, 1) -> -1", "put(0, 2, 2) -> -1",
+                "victim(0) -> 1", "put(0, 3, 3) -> 1", "has(0, 1) -> 0", "all(0, 0) -> [2, 3]",
+                "told(0, 3) -> 0");
         SCRIPT.run("LISTS: ONCE and its ghosts are as many as the capacity",
                 "shelf(5, 2, 0, 0) -> 0", "put(0, 1, 1) -> -1", "put(0, 2, 2) -> -1",
                 "get(0, 1) -> 1", "put(0, 3, 3) -> 2", "all(0, 2) -> [2]", "victim(0) -> 3",

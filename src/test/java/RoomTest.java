@@ -8,7 +8,10 @@ public final class RoomTest {
 
     public static void main(String[] args) {
         Script script = new Script();
-        bytesOfCalls(filledRack(5));
+        // Once unmeasured, so that the loading of classes is not counted.
+        for (int way = 0; way <= 5; way++) {
+            bytesOfCalls(filledRack(way));
+        }
         for (int way = 0; way <= 5; way++) {
             long before = THREADS.getCurrentThreadAllocatedBytes();
             PolicyRack rack = filledRack(way);
