@@ -62,28 +62,14 @@ final class Script {
     }
 
     private String answer(Rack rack, String call) {
-        int open = call.indexOf('(');
-        String name = call.substring(0, open);
-        int[] args = numbers(call.substring(open + 1, call.length() - 1));
-        return name.equals("all") ? wholeList(rack, args[0], args[1])
-                : counted(rack, name, args);
+        int[] args = Rack.argsOf(call);
+        return Rack.nameOf(call).equals("all") ? wholeList(rack, args[0], args[1])
+                : counted(rack, Rack.nameOf(call), args);
     }
 
     private String counted(Rack rack, String name, int... args) {
         calls++;
         return Rack.answer(rack, name, args);
-    }
-
-    private static int[] numbers(String text) {
-        if (text.isBlank()) {
-            return new int[0];
-        }
-        String[] parts = text.split(",");
-        int[] numbers = new int[parts.length];
-        for (int i = 0; i < parts.length; i++) {
-            numbers[i] = Integer.parseInt(parts[i].trim());
-        }
-        return numbers;
     }
 
     /** Looks one place farther than any list of the shelf can go. */
