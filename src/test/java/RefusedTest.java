@@ -172,7 +172,10 @@ public final class RefusedTest {
         return rack;
     }
 
-    /** All that can be asked; values come last, because to get them is to use their keys. */
+    /**
+     * Every list and number of each shelf, and a part of the row's; then values, as far as the
+     * 512 calls go: last, because to get them is to use their keys.
+     */
     private String snapshot(Rack rack) {
         List<String> calls = new ArrayList<>();
         for (int what = 0; what <= 2; what++) {
