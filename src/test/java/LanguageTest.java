@@ -8,6 +8,7 @@ import java.nio.file.Path;
 import java.util.Arrays;
 import java.util.Set;
 import java.util.TreeSet;
+import java.util.regex.Matcher;
 import java.util.regex.Pattern;
 
 /** The public face is the document's, and the source keeps to what LANGUAGE.md lets be seen. */
@@ -39,7 +40,12 @@ public final class LanguageTest {
     public static void main(String[] args) throws IOException {
         checkFace();
         checkClassesInside();
+        checkSizes(PolicyRack.class);
+        for (Class<?> inside : PolicyRack.class.getDeclaredClasses()) {
+            checkSizes(inside);
+        }
         String source = Files.readString(SOURCE);
+        checkLengths(source);
         for (String ruledOut : RULED_OUT) {
             boolean found = Pattern.compile(ruledOut, Pattern.MULTILINE).matcher(source).find();
             SCRIPT.same("source has " + ruledOut, "false", Boolean.toString(found));
@@ -91,6 +97,33 @@ public final class LanguageTest {
                         "false", Boolean.toString(publicNames.contains(method.getName())));
             }
         }
+    }
+
+    private static void checkSizes(Class<?> type) {
+        int fields = 0;
+        for (Field field : type.getDeclaredFields()) {
+            fields += Modifier.isStatic(field.getModifiers()) ? 0 : 1;
+        }
+        SCRIPT.same(type.getSimpleName() + " has more than twenty fields", "false",
+                Boolean.toString(fields > 20));
+        for (Method method : type.getDeclaredMethods()) {
+            SCRIPT.same(type.getSimpleName() + "." + method.getName() + " takes more than seven",
+                    "false", Boolean.toString(method.getParameterCount() > 7));
+        }
+    }
+
+    /** A method is what stands between a line that opens it and the brace just below that line. */
+    private static void checkLengths(String source) {
+        Matcher method = Pattern.compile("^( {4}| {8})(?! )[^\\n]*\\([^{;]*\\{\\n(.*?)^\\1\\}$",
+                Pattern.MULTILINE | Pattern.DOTALL).matcher(source);
+        int found = 0;
+        while (method.find()) {
+            found++;
+            long lines = method.group(2).lines().count();
+            SCRIPT.same("longer than sixty lines: " + method.group().lines().findFirst().get(),
+                    "false", Boolean.toString(lines > 60));
+        }
+        SCRIPT.same("few methods seen", "false", Boolean.toString(found < FACE.length));
     }
 
     private static void checkClassesInside() {

@@ -68,6 +68,26 @@ final class ModelRack implements Rack {
         };
     }
 
+    /** All that decides what a shelf will do, but for which keys it is about. */
+    String shape(int shelf) {
+        Shelf s = shelves.get(shelf);
+        StringBuilder text = new StringBuilder();
+        text.append(s.line.size()).append(' ').append(s.second.size()).append(' ')
+                .append(s.ghosts.size()).append(' ').append(s.secondGhosts.size()).append(" at ")
+                .append(s.hand).append(' ').append(s.target).append(':');
+        for (Item place : s.places) {
+            text.append(place == null ? " free" : place.mark ? " marked" : " plain");
+        }
+        if (s.way == 2) {
+            orderOfGoing(s).forEach(item -> text.append(' ').append(item.count));
+        }
+        return text.toString();
+    }
+
+    int greatestCount(int shelf) {
+        return held(shelves.get(shelf)).stream().mapToInt(item -> item.count).max().orElse(0);
+    }
+
     private static void demand(boolean good) {
         if (!good) {
             throw new IllegalArgumentException();
